@@ -337,25 +337,32 @@ public final class CheckSaver {
             }
         }
 
-        /** Answers whether that changed anything here. */
-        boolean copy(Facts from) {
-            boolean same = true;
+        void copy(Facts from) {
+            System.arraycopy(from.known, 0, known, 0, NUMBERS);
+            System.arraycopy(from.low, 0, low, 0, NUMBERS);
+            System.arraycopy(from.high, 0, high, 0, NUMBERS * ARRAYS);
+            System.arraycopy(from.value, 0, value, 0, ARRAYS);
+            System.arraycopy(from.size, 0, size, 0, ARRAYS);
+            System.arraycopy(from.there, 0, there, 0, ARRAYS);
+        }
+
+        boolean hasSameBounds(Facts other) {
             for (int n = 0; n < NUMBERS; n++) {
-                same = same && known[n] == from.known[n] && low[n] == from.low[n];
-                known[n] = from.known[n];
-                low[n] = from.low[n];
+                if (low[n] != other.low[n]) {
+                    return false;
+                }
             }
             for (int i = 0; i < high.length; i++) {
-                same = same && high[i] == from.high[i];
-                high[i] = from.high[i];
+                if (high[i] != other.high[i]) {
+                    return false;
+                }
             }
             for (int r = 0; r < ARRAYS; r++) {
-                same = same && value[r] == from.value[r] && size[r] == from.size[r] && there[r] == from.there[r];
-                value[r] = from.value[r];
-                size[r] = from.size[r];
-                there[r] = from.there[r];
+                if (there[r] != other.there[r]) {
+                    return false;
+                }
             }
-            return !same;
+            return true;
         }
 
         private static int boundedLow(int bound) {
@@ -533,15 +540,19 @@ public final class CheckSaver {
     /** Finds out what is known before each statement, and which checks are needless. */
     private static final class Finder {
         /**
-         * Each sweep but the last moves a bound at the END of one of 32 whiles; there 10 leasts
-         * move by less than 7000 steps and 40 highest by less than 14000: less than 21 million.
+         * More than any program needs: it goes back to a while only when a bound moved at its END,
+         * where 10 leasts move by less than 7000 steps and 40 highest by less than 14000; there
+         * are at most 32 whiles, and at most 64 arrivals from one going back to the next.
          */
-        private static final int MOST_SWEEPS = 50000000;
+        private static final int MOST_ARRIVALS = 2000000000;
 
         private final Program program;
         final Facts[] before = new Facts[MOST_STATEMENTS + 1];
         final int[] checksNeedless = new int[MOST_STATEMENTS];
-        /** What is known on the way that a sweep is just following. */
+        private final boolean[] reached = new boolean[MOST_STATEMENTS + 1];
+        /** Whether something moved from which what is known before the statement follows. */
+        private final boolean[] due = new boolean[MOST_STATEMENTS + 1];
+        /** What is known on the way that is just being followed. */
         private final Facts way = new Facts();
         private boolean worked;
 
@@ -556,19 +567,34 @@ public final class CheckSaver {
             worked = false;
         }
 
+        /**
+         * Goes down through the statements, and from a while's END back to it as long as bounds
+         * move there. Each bound only moves one way, because looser bounds before a statement
+         * never give tighter ones behind it: so the first ones that fit together are the
+         * strongest. All else that is known stays as it was when its statement was first reached.
+         */
         void work() {
             if (worked) {
                 return;
             }
-            sweep(false);
-            boolean moved = true;
-            for (int i = 0; moved && i < MOST_SWEEPS; i++) {
-                moved = sweep(true);
+            markAllDue();
+            int k = 0;
+            for (int i = 0; k <= program.count && i < MOST_ARRIVALS; i++) {
+                boolean moved = due[k] && arrive(k);
+                due[k] = false;
+                k = moved ? passOn(k) : k + 1;
             }
-            for (int k = 0; k < program.count; k++) {
-                checksNeedless[k] = findNeedless(k);
+            for (int j = 0; j < program.count; j++) {
+                checksNeedless[j] = findNeedless(j);
             }
             worked = true;
+        }
+
+        private void markAllDue() {
+            for (int k = 0; k <= program.count; k++) {
+                reached[k] = false;
+                due[k] = true;
+            }
         }
 
         int countNeedless() {
@@ -579,29 +605,52 @@ public final class CheckSaver {
             return sum;
         }
 
-        /**
-         * Goes once through all statements; again: what an earlier sweep found behind a while's
-         * END comes to the while. No bound is ever drawn tighter again by a later sweep, because
-         * looser bounds before a statement never give tighter ones behind it.
-         */
-        private boolean sweep(boolean again) {
-            way.setFirst();
-            boolean moved = arrive(0, again);
-            for (int k = 0; k < program.count; k++) {
-                follow(k);
-                moved = arrive(k + 1, again) || moved;
+        /** Answers whether what is known before statement k moved. */
+        private boolean arrive(int k) {
+            if (k == 0) {
+                way.setFirst();
+            } else {
+                follow(k - 1);
             }
-            return moved;
+            if (k < program.count && program.sorts[k] == WHILE) {
+                joinWhile(k);
+            }
+            if (reached[k] && before[k].hasSameBounds(way)) {
+                return false;
+            }
+            before[k].copy(way);
+            reached[k] = true;
+            return true;
         }
 
-        private boolean arrive(int k, boolean again) {
-            if (k < program.count && program.sorts[k] == WHILE) {
-                if (again) {
-                    way.joinBounds(before[program.endOf[k]]);
-                }
-                way.forgetChanged(program.numbersChanged[k], program.arraysChanged[k], k);
+        private void joinWhile(int k) {
+            int end = program.endOf[k];
+            if (reached[end]) {
+                way.joinBounds(before[end]);
             }
-            return before[k].copy(way);
+            way.forgetChanged(program.numbersChanged[k], program.arraysChanged[k], k);
+        }
+
+        /** Marks what follows from what is known before statement k; answers where to go on. */
+        private int passOn(int k) {
+            if (k == program.count) {
+                return k + 1;
+            }
+            due[k + 1] = true;
+            int sort = program.sorts[k];
+            int head = program.headOf[k];
+            if (sort == IF || sort == WHILE) {
+                due[program.endOf[k] + 1] = true;
+                if (program.elseOf[k] != NONE) {
+                    due[program.elseOf[k] + 1] = true;
+                }
+            } else if (sort == ELSE) {
+                due[program.endOf[head] + 1] = true;
+            } else if (sort == END && program.sorts[head] == WHILE) {
+                due[head] = true;
+                return head;
+            }
+            return k + 1;
         }
 
         private void follow(int k) {

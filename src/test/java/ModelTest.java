@@ -184,7 +184,7 @@ public final class ModelTest {
     }
 
     public static void main(String[] args) {
-        int many = args.length > 0 ? Integer.parseInt(args[0]) : 3000;
+        int many = args.length > 0 ? Integer.parseInt(args[0]) : 2000;
         seed = args.length > 1 ? Long.parseLong(args[1]) : 20261115L;
         CheckSaver c = new CheckSaver();
         List<Integer> inputs = new ArrayList<>();
@@ -205,7 +205,7 @@ public final class ModelTest {
             inputs.clear();
         }
         for (int i = 0; i < stops.length; i++) {
-            if (stops[i] == 0 && many >= 3000) {
+            if (stops[i] == 0 && many >= 2000) {
                 Expect.fail("no program ended with state " + i + ": the comparison says too little");
             }
         }
