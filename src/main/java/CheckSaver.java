@@ -343,7 +343,9 @@ public final class CheckSaver {
             System.arraycopy(from.high, 0, high, 0, NUMBERS * ARRAYS);
             System.arraycopy(from.value, 0, value, 0, ARRAYS);
             System.arraycopy(from.size, 0, size, 0, ARRAYS);
-            System.arraycopy(from.there, 0, there, 0, ARRAYS);
+            for (int r = 0; r < ARRAYS; r++) {
+                there[r] = from.there[r];
+            }
         }
 
         boolean hasSameBounds(Facts other) {
@@ -517,7 +519,7 @@ public final class CheckSaver {
             }
         }
 
-        /** What the while k takes from what comes to it, because statements within change it. */
+        /** What the while k does not keep of what comes to it, because statements within change it. */
         void forgetChanged(int numbers, int arrays, int k) {
             for (int n = 0; n < NUMBERS; n++) {
                 if ((numbers >> n & 1) != 0) {
@@ -547,9 +549,9 @@ public final class CheckSaver {
         private static final int MOST_ARRIVALS = 2000000000;
 
         private final Program program;
-        final Facts[] before = new Facts[MOST_STATEMENTS + 1];
+        final Facts[] before = new Facts[MOST_STATEMENTS];
         final int[] checksNeedless = new int[MOST_STATEMENTS];
-        private final boolean[] reached = new boolean[MOST_STATEMENTS + 1];
+        private final boolean[] reached = new boolean[MOST_STATEMENTS];
         /** Whether something moved from which what is known before the statement follows. */
         private final boolean[] due = new boolean[MOST_STATEMENTS + 1];
         /** What is known on the way that is just being followed. */
@@ -579,7 +581,7 @@ public final class CheckSaver {
             }
             markAllDue();
             int k = 0;
-            for (int i = 0; k <= program.count && i < MOST_ARRIVALS; i++) {
+            for (int i = 0; k < program.count && i < MOST_ARRIVALS; i++) {
                 boolean moved = due[k] && arrive(k);
                 due[k] = false;
                 k = moved ? passOn(k) : k + 1;
@@ -591,7 +593,7 @@ public final class CheckSaver {
         }
 
         private void markAllDue() {
-            for (int k = 0; k <= program.count; k++) {
+            for (int k = 0; k < program.count; k++) {
                 reached[k] = false;
                 due[k] = true;
             }
@@ -612,7 +614,7 @@ public final class CheckSaver {
             } else {
                 follow(k - 1);
             }
-            if (k < program.count && program.sorts[k] == WHILE) {
+            if (program.sorts[k] == WHILE) {
                 joinWhile(k);
             }
             if (reached[k] && before[k].hasSameBounds(way)) {
@@ -631,24 +633,22 @@ public final class CheckSaver {
             way.forgetChanged(program.numbersChanged[k], program.arraysChanged[k], k);
         }
 
-        /** Marks what follows from what is known before statement k; answers where to go on. */
+        /**
+         * Marks what follows from what is known before statement k; answers where to go on. What is
+         * known before an ELSE moves only if it did before the if, which marks what is behind the END.
+         */
         private int passOn(int k) {
-            if (k == program.count) {
-                return k + 1;
-            }
             due[k + 1] = true;
             int sort = program.sorts[k];
-            int head = program.headOf[k];
             if (sort == IF || sort == WHILE) {
                 due[program.endOf[k] + 1] = true;
                 if (program.elseOf[k] != NONE) {
                     due[program.elseOf[k] + 1] = true;
                 }
-            } else if (sort == ELSE) {
-                due[program.endOf[head] + 1] = true;
-            } else if (sort == END && program.sorts[head] == WHILE) {
-                due[head] = true;
-                return head;
+            }
+            if (sort == END && program.sorts[program.headOf[k]] == WHILE) {
+                due[program.headOf[k]] = true;
+                return program.headOf[k];
             }
             return k + 1;
         }

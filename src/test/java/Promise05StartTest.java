@@ -47,6 +47,9 @@ public final class Promise05StartTest extends Expect {
         grows.clear();
         tell(grows, s(NEW, 0, 0), s(LENGTH, 0, 0));
         due("what is known is worked out anew", grows.start(), 1);
+        tell(grows, s(LENGTH, 1, 0));
+        due("and with a statement more", grows.start(), 2);
+        due("a check of statement 0", program(s(LOAD)).start(), 1);
         finish("Promise05StartTest");
     }
 }

@@ -31,6 +31,7 @@ public final class Promise06NeedlessTest extends Expect {
         due("needless of a new run", c.needless(3), 7);
         c.clear();
         dueThrow("needless behind clear()", STATE, () -> c.needless(3));
+        due("needless(0)", started(s(LOAD)).needless(0), 2);
         finish("Promise06NeedlessTest");
     }
 }

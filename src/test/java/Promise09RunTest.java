@@ -76,6 +76,17 @@ public final class Promise09RunTest extends Expect {
         due("a length of 40", ran(s(SET, 0, 40), s(NEW, 0, 0)).length(0), 40);
         due("a length of 0", ran(s(NEW, 0, 0)).length(0), 0);
 
+        CheckSaver first = ran(s(SET, 0, 1), s(NEW, 0, 0), s(READ, 1), s(STORE, 0, 1, 0));
+        due("index 0, with LOW and HIGH made", first.state(1), 1);
+        due("it is stored", first.place(0, 0), 1);
+        CheckSaver largest = ran(s(SET, 0, 40), s(SET, 1, 39), s(WHILE, 2, 10, 40), s(NEW, 0, 0), s(STORE, 0, 1, 0), s(STORE, 0, 3, 0),
+                s(ADD, 2, 2, 1), s(END));
+        due("40 arrays of 40 places", largest.state(1), 1);
+        due("the last place of all", largest.place(0, 39), 40);
+        largest.start();
+        largest.run(4);
+        due("all 0 in a new run: the first place", largest.place(0, 0), 0);
+        due("all 0 in a new run: the last place", largest.place(0, 39), 0);
         CheckSaver many = started(s(WHILE, 0, 0, 1), s(NEW, 0, 1), s(END));
         due("40 arrays", many.run(2000), 121);
         due("not 41", many.state(1), 6);

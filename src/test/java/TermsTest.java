@@ -39,6 +39,16 @@ public final class TermsTest extends Expect {
         due("NEW draws a least up", wrong.least(3, 0), 0);
         CheckSaver far = started(s(SET, 1, 100), s(ADD, 1, 1, 100), s(ADD, 1, 1, 1), s(READ, 0), s(NEW, 0, 0), s(WRITE));
         due("a number known to be above 200", far.highest(5, 1, 0), FREE);
+        CheckSaver maybe = started(s(READ, 0), s(IF, 0, 10, 0), s(NEW, 0, 1), s(END), s(LOAD, 2, 0, 1), s(LENGTH, 3, 0), s(WRITE));
+        due("LOAD of one that may be null", maybe.needless(4), 2);
+        due("it is there behind that", maybe.needless(5), 1);
+        CheckSaver sum = started(s(READ, 0), s(ADD, 1, 0, 5), s(NEW, 0, 2), s(NEW, 1, 1), s(SET, 4, 3), s(WRITE));
+        due("a sum of what is not known is not known", sum.highest(3, 1, 0), FREE);
+        due("NEW of it has no known length", sum.highest(5, 4, 1), 3);
+        CheckSaver at0 = started(s(NEW, 0, 0), s(SET, 1, 2), s(WRITE));
+        due("NEW as the first statement", at0.highest(2, 1, 0), 2);
+        CheckSaver n0 = started(s(SET, 1, 4), s(NEW, 0, 1), s(WRITE));
+        due("n0 against a new value", n0.highest(2, 0, 0), -4);
         CheckSaver onNull = started(s(READ, 0), s(LOAD, 1, 0, 0), s(WRITE, 0));
         due("LOAD of null: least", onNull.least(2, 0), 0);
         due("LOAD of null: highest", onNull.highest(2, 0, 0), FREE);
@@ -73,6 +83,10 @@ public final class TermsTest extends Expect {
         due("nx and ny the same, holds: least", same.least(4, 0), 4);
         due("nx and ny the same, does not hold: least", same.least(6, 0), 2);
         due("nx and ny the same, does not hold: highest", same.highest(6, 0, 0), 2);
+
+        CheckSaver last = started(s(READ, 8), s(NEW, 3, 8), s(LENGTH, 8, 3), s(READ, 9), s(IF, 8, 9, 5), s(WRITE), s(ELSE), s(WRITE), s(END));
+        due("n9 and r3, holds", last.least(5, 9), -4);
+        due("n9 and r3, does not hold", last.highest(7, 9, 3), -5);
 
         CheckSaver edge = started(s(READ, 9), s(NEW, 0, 9), s(SET, 0, 100), s(ADD, 0, 0, 1), s(READ, 1), s(IF, 1, 0, 100),
                 s(WRITE), s(END), s(IF, 1, 0, 99), s(WRITE), s(END), s(READ, 2), s(SET, 3, -100), s(ADD, 3, 3, -1),
@@ -116,6 +130,9 @@ public final class TermsTest extends Expect {
         due("a new value has no known length", fresh.highest(10, 2, 0), 0);
         due("each variable has a new value of its own", fresh.highest(11, 3, 1), FREE);
         due("against its own", fresh.highest(11, 3, 0), 0);
+
+        CheckSaver n0 = started(s(READ, 1), s(IF, 1, 10, 0), s(SET, 0, 3), s(END), s(NEW, 0, 1), s(WRITE));
+        due("n0, known on one way", n0.highest(5, 0, 0), FREE);
 
         CheckSaver checked = started(s(READ, 0), s(IF, 0, 10, 0), s(NEW, 0, 1), s(END), s(IF, 0, 10, 5), s(LENGTH, 2, 0), s(ELSE),
                 s(LENGTH, 3, 0), s(END), s(LENGTH, 4, 0));
@@ -176,6 +193,69 @@ public final class TermsTest extends Expect {
         due("what is there goes", goes.needless(3), 0);
     }
 
+    private static void changedWithinWhiles() {
+        CheckSaver loads = started(s(SET, 0, 6), s(SET, 1, 6), s(NEW, 0, 0), s(WHILE, 2, 10, 3), s(LOAD, 1, 0, 2), s(ADD, 2, 2, 1), s(END),
+                s(NEW, 1, 0), s(WRITE));
+        due("a number that is loaded within is not known", loads.highest(8, 1, 1), FREE);
+        CheckSaver first = started(s(WHILE, 1, 10, 3), s(READ, 0), s(END), s(NEW, 0, 1), s(WRITE));
+        due("n0, read within", first.highest(4, 0, 0), FREE);
+        CheckSaver lets = started(s(SET, 0, 6), s(NEW, 0, 0), s(NEW, 1, 0), s(SET, 5, 1), s(WHILE, 2, 10, 3), s(LET, 1, 0), s(ADD, 2, 2, 1),
+                s(END), s(SET, 3, 2), s(LENGTH, 4, 0), s(WRITE));
+        due("an array that is let within has a new value", lets.highest(9, 3, 1), 2);
+        due("the one that it was let from has not", lets.highest(9, 3, 0), -4);
+        due("so they are two", lets.highest(10, 4, 1), FREE);
+        due("against both of its values", lets.highest(8, 5, 1), -5);
+        CheckSaver news = started(s(SET, 0, 6), s(NEW, 0, 0), s(WHILE, 2, 10, 3), s(NEW, 0, 0), s(ADD, 2, 2, 1), s(END), s(SET, 3, 2), s(WRITE));
+        due("an array that is made within has a new value", news.highest(7, 3, 0), 2);
+        CheckSaver stores = started(s(SET, 0, 6), s(NEW, 0, 0), s(WHILE, 2, 10, 3), s(STORE, 0, 2, 2), s(WRITE), s(ADD, 2, 2, 1), s(END),
+                s(SET, 3, 2), s(SET, 4, 4), s(NEW, 2, 3), s(WRITE));
+        due("STORE and WRITE give no new value", stores.highest(10, 4, 0), -2);
+        due("nor a number that is not known", stores.highest(10, 0, 2), 4);
+    }
+
+    private static void ifsWithinWhiles() {
+        CheckSaver c = started(s(SET, 0, 40), s(WHILE, 9, 10, 3), s(READ, 1), s(IF, 1, 10, 0), s(WRITE), s(ELSE), s(ADD, 2, 0, 0), s(END),
+                s(WRITE), s(READ, 1), s(IF, 1, 10, 0), s(SET, 3, 1), s(END), s(ADD, 4, 0, 0), s(ADD, 0, 0, -1), s(IF, 0, 10, -5),
+                s(SET, 0, -5), s(END), s(END), s(WRITE));
+        due("the way where it holds, again", c.least(4, 0), -5);
+        due("the way where it does not hold, again", c.least(6, 0), -5);
+        due("the end of that way", c.least(7, 2), -5);
+        due("behind its END", c.least(8, 2), -5);
+        due("behind an if without ELSE", c.least(13, 0), -5);
+        due("and on", c.least(14, 4), -5);
+        due("behind the while", c.least(19, 2), -5);
+
+        CheckSaver one = started(s(SET, 0, 40), s(WHILE, 9, 10, 3), s(READ, 1), s(IF, 1, 10, 0), s(SET, 2, 7), s(WRITE), s(ELSE), s(SET, 2, 9),
+                s(END), s(IF, 1, 10, 0), s(ADD, 3, 0, 0), s(ELSE), s(SET, 0, 50), s(SET, 3, 60), s(END), s(ADD, 0, 3, -1), s(END), s(WRITE));
+        due("what falls on the first way alone", one.least(14, 3), 60);
+        due("falls behind the END, too", one.least(15, 3), FREE);
+
+        CheckSaver first = started(s(SET, 0, 40), s(WHILE, 9, 10, 3), s(READ, 1), s(IF, 1, 10, 0), s(SET, 0, 7), s(WRITE), s(ELSE), s(WRITE),
+                s(END), s(WRITE), s(ADD, 0, 0, -1), s(END));
+        due("nothing moves at the end of the first way", first.least(6, 0), 7);
+        due("but on the second", first.least(7, 0), FREE);
+        due("and behind END", first.least(9, 0), FREE);
+        CheckSaver without = started(s(SET, 0, 40), s(WHILE, 9, 10, 3), s(READ, 1), s(IF, 1, 10, 0), s(SET, 0, 7), s(WRITE), s(END), s(WRITE),
+                s(ADD, 0, 0, -1), s(END));
+        due("nothing moves before END", without.least(6, 0), 7);
+        due("but behind it", without.least(7, 0), FREE);
+        CheckSaver inner = started(s(SET, 0, 40), s(WHILE, 9, 10, 3), s(WHILE, 1, 10, 3), s(SET, 0, 7), s(WRITE), s(END), s(WRITE),
+                s(ADD, 0, 0, -1), s(END));
+        due("nothing moves before the END of a while", inner.least(5, 0), 7);
+        due("but behind it, by the while", inner.least(6, 0), FREE);
+        CheckSaver second = started(s(SET, 0, 40), s(WHILE, 9, 10, 3), s(READ, 1), s(IF, 1, 10, 0), s(WRITE), s(ELSE), s(SET, 0, 7), s(WRITE),
+                s(END), s(WRITE), s(ADD, 0, 0, -1), s(END));
+        due("nothing moves at the end of the second way", second.least(8, 0), 7);
+        due("but behind END, by the first", second.least(9, 0), FREE);
+
+        CheckSaver there = started(s(NEW, 0, 0), s(SET, 9, 0), s(WHILE, 9, 10, 3), s(LENGTH, 1, 0), s(READ, 1), s(READ, 2), s(NULL, 0), s(END));
+        due("r0 is there no more on the way behind END", there.needless(3), 0);
+        CheckSaver alone = started(s(READ, 1), s(NEW, 0, 1), s(LET, 1, 0), s(READ, 0), s(READ, 1), s(READ, 2), s(READ, 3), s(READ, 4), s(READ, 5),
+                s(READ, 6), s(READ, 7), s(READ, 8), s(READ, 9), s(WHILE, 9, 10, 3), s(WHILE, 9, 10, 3), s(LENGTH, 8, 0), s(READ, 8),
+                s(END), s(READ, 9), s(LET, 0, 2), s(END));
+        due("nothing but what is there moves", alone.needless(15), 0);
+    }
+
     private static void whilesInWhiles() {
         CheckSaver c = started(s(SET, 0, 20), s(WHILE, 1, 10, 9), s(SET, 2, 0), s(WHILE, 2, 10, 9), s(ADD, 2, 2, 1), s(ADD, 0, 3, 0), s(END),
                 s(ADD, 3, 4, 0), s(ADD, 4, 5, -1), s(IF, 4, 10, -7), s(SET, 4, -7), s(END), s(ADD, 5, 4, 0), s(ADD, 1, 1, 1), s(END),
@@ -225,6 +305,8 @@ public final class TermsTest extends Expect {
         conditions();
         joinsOfIfs();
         joinsOfWhiles();
+        changedWithinWhiles();
+        ifsWithinWhiles();
         whilesInWhiles();
         slowest();
         finish("TermsTest");
