@@ -885,7 +885,7 @@ public final class CheckSaver {
                     arrays[x] = arrays[y];
                     break;
                 case WRITE:
-                    kept[outputs % MOST_OUTPUTS_KEPT] = numbers[x];
+                    kept[Math.floorMod(outputs, MOST_OUTPUTS_KEPT)] = numbers[x];
                     outputs++;
                     break;
                 default:
@@ -955,7 +955,7 @@ public final class CheckSaver {
             if (k < 0 || k >= MOST_OUTPUTS_KEPT || k >= outputs) {
                 return FREE;
             }
-            return kept[(outputs - 1 - k) % MOST_OUTPUTS_KEPT];
+            return kept[Math.floorMod(outputs - 1 - k, MOST_OUTPUTS_KEPT)];
         }
 
         int tell(int what) {

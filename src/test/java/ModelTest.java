@@ -4,8 +4,13 @@ import java.util.List;
 
 /** Many programs, made by a fixed row of numbers: the class and the model must agree in everything. */
 public final class ModelTest {
+    /** The dearest questions at the end: 17 states and numbers, 17 outputs, 4 arrays of 40 places. */
+    private static final int CALLS_AT_END = 17 + 17 + 4 + 4 * 42;
+
     private static long seed;
     private static int programs = 0;
+    /** Whether the program being made has many constants near -100 and 100, so that bounds come to -200 and 200. */
+    private static boolean wide = false;
     private static final int[] stops = new int[7];
 
     private static int below(int bound) {
@@ -15,6 +20,9 @@ public final class ModelTest {
 
     private static int constant() {
         int kind = below(10);
+        if (wide && kind < 5) {
+            return (below(2) == 0 ? 1 : -1) * (100 - below(3));
+        }
         if (kind < 6) {
             return below(9) - 3;
         }
@@ -56,7 +64,8 @@ public final class ModelTest {
     private static List<int[]> randomProgram() {
         int numbers = below(4) == 0 ? 10 : 2 + below(4);
         int arrays = below(4) == 0 ? 4 : 1 + below(2);
-        int size = 4 + below(61);
+        int size = 4 + below(below(3) == 0 ? 20 : 61);
+        wide = below(4) == 0;
         List<int[]> code = new ArrayList<>();
         List<int[]> open = new ArrayList<>();
         // Without arrays at the beginning most runs would stop at once by null.
@@ -114,45 +123,71 @@ public final class ModelTest {
         return b.toString();
     }
 
-    private static void compareKnown(CheckSaver c, Model m, String name) {
+    /** All that is known, asked of as many objects as it takes to keep to 512 calls of each. */
+    private static void compareKnown(List<int[]> code, Model m, String name) {
+        Counted c = null;
+        for (int k = 0; k < code.size(); k++) {
+            if (c == null || c.left() < 51) {
+                c = told(code);
+            }
+            Expect.due(name + " needless(" + k + ")", c.needless(k), m.needlessOf(k));
+            for (int n = 0; n < 10; n++) {
+                compareKnown(c, m, name, k, n);
+            }
+        }
+    }
+
+    private static Counted told(List<int[]> code) {
+        Counted c = new Counted();
+        for (int[] s : code) {
+            c.put(s);
+        }
+        c.start();
+        return c;
+    }
+
+    private static void compareKnown(Counted c, Model m, String name, int k, int n) {
+        Expect.due(name + " least(" + k + ", " + n + ")", c.least(k, n), m.leastBefore(k, n));
+        for (int r = 0; r < 4; r++) {
+            Expect.due(name + " highest(" + k + ", " + n + ", " + r + ")", c.highest(k, n, r), m.highestBefore(k, n, r));
+        }
+    }
+
+    private static int countNeedless(Model m) {
         int sum = 0;
         for (int k = 0; k < m.code.size(); k++) {
             sum += Integer.bitCount(m.needlessOf(k));
-            Expect.due(name + " needless(" + k + ")", c.needless(k), m.needlessOf(k));
-            for (int n = 0; n < 10; n++) {
-                Expect.due(name + " least(" + k + ", " + n + ")", c.least(k, n), m.leastBefore(k, n));
-                for (int r = 0; r < 4; r++) {
-                    Expect.due(name + " highest(" + k + ", " + n + ", " + r + ")", c.highest(k, n, r),
-                            m.highestBefore(k, n, r));
-                }
-            }
         }
-        Expect.due(name + " start()", c.start(), sum);
+        return sum;
     }
 
-    private static void compareRun(CheckSaver c, Model m, String name) {
+    private static void compareNumbers(Counted c, Model m, String name) {
         int want = m.stop != 0 ? m.stop + 1 : m.at == m.code.size() ? 1 : 0;
-        int[] states = {m.at, want, m.done, m.made, m.leftOut, m.outputs.size(), m.arrays, -1};
+        int[] states = {m.at, want, m.done, m.made, m.leftOut, m.outputs.size(), m.arrays};
         for (int i = 0; i < states.length; i++) {
             Expect.due(name + " state(" + i + ")", c.state(i), states[i]);
         }
         for (int n = 0; n < 10; n++) {
             Expect.due(name + " number(" + n + ")", c.number(n), (int) m.n[n]);
         }
-        for (int k = -1; k < 18; k++) {
-            int due = k < 0 || k > 15 || k >= m.outputs.size() ? Expect.FREE : m.outputs.get(k);
+    }
+
+    private static void compareArraysAndOutputs(Counted c, Model m, String name) {
+        for (int k = 0; k <= 16; k++) {
+            int due = k > 15 || k >= m.outputs.size() ? Expect.FREE : m.outputs.get(k);
             Expect.due(name + " output(" + k + ")", c.output(k), due);
         }
         for (int r = 0; r < 4; r++) {
-            Expect.due(name + " length(" + r + ")", c.length(r), m.r[r] == null ? -1 : m.r[r].length);
-            for (int i = -1; i < 42; i++) {
-                int due = m.r[r] == null || i < 0 || i >= m.r[r].length ? Expect.FREE : m.r[r][i];
+            int length = m.r[r] == null ? -1 : m.r[r].length;
+            Expect.due(name + " length(" + r + ")", c.length(r), length);
+            for (int i = -1; i <= Math.max(length, 0); i++) {
+                int due = i < 0 || i >= length ? Expect.FREE : m.r[r][i];
                 Expect.due(name + " place(" + r + ", " + i + ")", c.place(r, i), due);
             }
         }
     }
 
-    private static void giveSome(CheckSaver c, List<Integer> inputs) {
+    private static void giveSome(Counted c, List<Integer> inputs) {
         int some = below(8);
         for (int i = 0; i < some && inputs.size() < 64; i++) {
             int v = below(10) == 0 ? (below(2) == 0 ? 1 : -1) * (1000000 - below(3)) : below(12) - 2;
@@ -161,55 +196,70 @@ public final class ModelTest {
         }
     }
 
-    private static void compare(CheckSaver c, List<Integer> inputs, List<int[]> code, String name) {
+    private static void compare(Counted c, List<Integer> inputs, List<int[]> code, String name) {
         for (int k = 0; k < code.size(); k++) {
-            int[] s = code.get(k);
-            Expect.due(name + " put", c.put(s[0], s[1], s[2], s[3]), k + 1);
+            Expect.due(name + " put", c.put(code.get(k)), k + 1);
         }
         Model m = new Model(code);
         giveSome(c, inputs);
-        c.start();
-        compareKnown(c, m, name);
-        while (m.goes() && m.done < 6000) {
+        Expect.due(name + " start()", c.start(), countNeedless(m));
+        for (int i = 0; i < 8; i++) {
+            compareKnown(c, m, name, below(code.size()), below(10));
+        }
+        while (m.goes() && m.done < 6000 && c.left() >= CALLS_AT_END + 8) {
             int most = below(3) == 0 ? 1 + below(20) : 2000;
             int before = m.done;
             for (int i = 0; i < most && m.goes(); i++) {
                 m.step(inputs);
             }
             Expect.due(name + " run(" + most + ")", c.run(most), m.done - before);
-            compareRun(c, m, name);
-            giveSome(c, inputs);
+            if (c.left() >= CALLS_AT_END + 17 + 8) {
+                compareNumbers(c, m, name);
+                giveSome(c, inputs);
+            }
         }
+        compareNumbers(c, m, name);
+        compareArraysAndOutputs(c, m, name);
         stops[m.stop != 0 ? m.stop + 1 : m.goes() ? 0 : 1]++;
+        compareKnown(code, m, name);
+    }
+
+    /** What one program may need: its statements, inputs, start(), some of what is known, two runs and the end. */
+    private static int callsFor(List<int[]> code) {
+        return code.size() + 8 + 1 + 8 * 5 + 2 * (1 + 17 + 8) + CALLS_AT_END;
     }
 
     public static void main(String[] args) {
         int many = args.length > 0 ? Integer.parseInt(args[0]) : 2000;
         seed = args.length > 1 ? Long.parseLong(args[1]) : 20261115L;
-        CheckSaver c = new CheckSaver();
+        Counted c = new Counted();
         List<Integer> inputs = new ArrayList<>();
+        List<int[]> code = new ArrayList<>();
+        int again = 0;
         for (programs = 0; programs < many; programs++) {
-            List<int[]> code = randomProgram();
+            int had = code.size();
+            code = randomProgram();
             String name = "program " + programs;
+            // One object for several programs: nothing of an earlier one may be left over.
+            if (programs > 0 && c.left() > callsFor(code)) {
+                Expect.due(name + " clear()", c.clear(), had);
+                again++;
+            } else {
+                c = new Counted();
+            }
+            inputs.clear();
             try {
                 compare(c, inputs, code, name);
             } catch (RuntimeException | AssertionError e) {
                 Expect.fail(name + " threw " + e + ": " + text(code));
             }
-            // One object for several programs: nothing of an earlier one may be left over.
-            if (below(3) == 0) {
-                c = new CheckSaver();
-            } else {
-                Expect.due(name + " clear()", c.clear(), code.size());
-            }
-            inputs.clear();
         }
         for (int i = 0; i < stops.length; i++) {
             if (stops[i] == 0 && many >= 2000) {
                 Expect.fail("no program ended with state " + i + ": the comparison says too little");
             }
         }
-        System.out.println("ends by state: " + Arrays.toString(stops));
+        System.out.println("ends by state: " + Arrays.toString(stops) + ", in a cleared object: " + again);
         Expect.finish("ModelTest");
     }
 }
