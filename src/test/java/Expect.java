@@ -16,8 +16,25 @@ class Expect {
     static final int IF = 9, ELSE = 10, END = 11, WHILE = 12, WRITE = 13;
     static final int ZERO = 10;
 
+    private static final long MOST_SECONDS = 600;
+
     private static int wrong = 0;
-    private static String sentence = "";
+    private static volatile String sentence = "";
+
+    // A call that does not end must fail its test, not hang all of them.
+    static {
+        Thread watch = new Thread(() -> {
+            try {
+                Thread.sleep(MOST_SECONDS * 1000);
+            } catch (InterruptedException e) {
+                return;
+            }
+            System.out.println(sentence + "no end within " + MOST_SECONDS + " seconds");
+            Runtime.getRuntime().halt(1);
+        });
+        watch.setDaemon(true);
+        watch.start();
+    }
 
     interface Call {
         int answer();
