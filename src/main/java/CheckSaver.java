@@ -49,10 +49,11 @@ public final class CheckSaver {
     private static final int STOPPED_SUM = 5;
     private static final int STOPPED_NEW = 6;
 
-    private final Program program = new Program();
-    private final Inputs inputs = new Inputs();
-    private final Finder finder = new Finder(program);
-    private final Machine machine = new Machine(program, finder, inputs);
+    // Each part makes the parts that it uses, so that no constructor hands out one of its own.
+    private final Machine machine = new Machine();
+    private final Inputs inputs = machine.inputs;
+    private final Finder finder = machine.finder;
+    private final Program program = finder.program;
 
     public CheckSaver() {
     }
@@ -548,7 +549,7 @@ public final class CheckSaver {
          */
         private static final int MOST_ARRIVALS = 2000000000;
 
-        private final Program program;
+        final Program program = new Program();
         final Facts[] before = new Facts[MOST_STATEMENTS];
         final int[] checksNeedless = new int[MOST_STATEMENTS];
         private final boolean[] reached = new boolean[MOST_STATEMENTS];
@@ -558,8 +559,7 @@ public final class CheckSaver {
         private final Facts way = new Facts();
         private boolean worked;
 
-        Finder(Program program) {
-            this.program = program;
+        Finder() {
             for (int k = 0; k < before.length; k++) {
                 before[k] = new Facts();
             }
@@ -746,9 +746,9 @@ public final class CheckSaver {
 
     /** The run. */
     private static final class Machine {
-        private final Program program;
-        private final Finder finder;
-        private final Inputs inputs;
+        final Inputs inputs = new Inputs();
+        final Finder finder = new Finder();
+        private final Program program = finder.program;
         final int[] numbers = new int[NUMBERS];
         /** Which of the arrays made each variable has, NONE for null. */
         private final int[] arrays = new int[ARRAYS];
@@ -764,12 +764,6 @@ public final class CheckSaver {
         private int checksLeftOut;
         private int outputs;
         private int made;
-
-        Machine(Program program, Finder finder, Inputs inputs) {
-            this.program = program;
-            this.finder = finder;
-            this.inputs = inputs;
-        }
 
         void leave() {
             begun = false;
